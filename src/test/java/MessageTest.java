@@ -14,6 +14,7 @@ public final class MessageTest {
         wouldBeLost();
         napLengths();
         predictions();
+        predictionsOfLosses();
         lastMinuteOfPrediction();
         predictedEnds();
         CHECK.finish();
@@ -147,6 +148,25 @@ public final class MessageTest {
         mail.advance(minutes);
         CHECK.same("33: then", mail.status(message), 'd');
         mail.undo();
+    }
+
+    /** Taken at minute 1; with distance 1, attempt k arrives at minute 2, 5, 10, 19 or 36. */
+    private static void predictionsOfLosses() {
+        int[] arrivals = {2, 5, 10, 19, 36};
+        for (int loss = 0; loss <= 4; loss++) {
+            for (int force = 0; force <= 4; force++) {
+                CrowMail mail = Mails.with(1, 1, loss);
+                mail.setWind(force);
+                mail.publish(0, 1);
+                int attempt = 1;
+                while ((attempt + force) % 5 < loss) {
+                    attempt++;
+                }
+                CHECK.same("33: loss " + loss + ", force " + force, mail.minutesUntilDelivered(0), arrivals[attempt - 1]);
+                mail.advance(1);
+                CHECK.same("33: in flight", mail.minutesUntilDelivered(0), arrivals[attempt - 1] - 1);
+            }
+        }
     }
 
     /** With one crow and distance 9, the k-th message is delivered after 1 + 9 k minutes: the 11th after 100. */

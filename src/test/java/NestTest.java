@@ -12,6 +12,7 @@ public final class NestTest {
         refusedNests();
         missingNests();
         inbox();
+        fullInboxInOrder();
         keys();
         oldestKey();
         forgetting();
@@ -92,6 +93,19 @@ public final class NestTest {
         mail.read(0);
         CHECK.same("14: next after a reading", mail.inboxMessage(0, 0), 1);
         CHECK.refused("14: old last position", mail, ELEMENT, () -> mail.inboxMessage(0, 2));
+    }
+
+    private static void fullInboxInOrder() {
+        CrowMail mail = Mails.with(4, 1, 0);
+        Mails.publish(mail, 0, 1, 2, 3, 4, 5, 6, 7, 8);
+        mail.advance(4);
+        for (int read = 0; read < 8; read++) {
+            for (int position = 0; position < 8 - read; position++) {
+                CHECK.same("14: after " + read + " readings", mail.inboxMessage(0, position), read + position);
+            }
+            CHECK.same("5: the first of " + (8 - read), mail.read(0), read);
+        }
+        CHECK.same("13: empty", mail.inboxSize(0), 0);
     }
 
     private static void keys() {

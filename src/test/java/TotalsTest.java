@@ -9,6 +9,7 @@ public final class TotalsTest {
         noRate();
         means();
         rates();
+        fullHouse();
         CHECK.finish();
     }
 
@@ -113,5 +114,19 @@ public final class TotalsTest {
             CHECK.same("46: bits", mail.deliveryRateBits(), Float.floatToIntBits(due));
             CHECK.yes("47: consistent", mail.isConsistent());
         }
+    }
+
+    /** All nests, crows and messages that there may be, on their ways and at their ends. */
+    private static void fullHouse() {
+        CrowMail mail = Mails.with(4, 1, 0, 2, 1, 3, 2, 4, 3, 5, 4, 6, 0);
+        for (int i = 0; i < 16; i++) {
+            mail.publish(i % 6, i);
+        }
+        for (int minute = 0; minute < 60; minute++) {
+            CHECK.yes("47: minute " + minute, mail.isConsistent());
+            CHECK.same("42: minute " + minute, mail.messageCountByTotals(), mail.messageCount());
+            mail.advance(1);
+        }
+        CHECK.yes("37: some were delivered", mail.deliveredTotal() > 8);
     }
 }

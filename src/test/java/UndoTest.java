@@ -8,6 +8,9 @@ public final class UndoTest {
 
     public static void main(String[] args) {
         everyChange();
+        lateNest();
+        inboxAndKeys();
+        droppedAndFailed();
         eightChanges();
         afterUndo();
         idleChanges();
@@ -15,6 +18,7 @@ public final class UndoTest {
         reusedIds();
         snapshot();
         snapshotIsKept();
+        snapshotOfOtherNests();
         CHECK.finish();
     }
 
@@ -36,6 +40,62 @@ public final class UndoTest {
             step.run();
             CHECK.same("55: done again", Picture.of(mail), after);
         }
+    }
+
+    private static void lateNest() {
+        CrowMail mail = Mails.with(1, 1, 0);
+        mail.publish(0, 1);
+        mail.advance(2);
+        undone(mail, "a nest", () -> mail.addNest(3, 2));
+        undone(mail, "a crow", () -> mail.addCrow());
+        mail.addNest(4, 4);
+        CHECK.same("55: another nest in its place", mail.distance(1) * 10 + mail.loss(1), 44);
+    }
+
+    /** The order of the inbox and of the keys comes back, not only how many there are. */
+    private static void inboxAndKeys() {
+        CrowMail mail = Mails.with(4, 1, 0);
+        Mails.publish(mail, 0, 10, 11, 12, 13, 14, 15, 16, 17);
+        mail.advance(4);
+        undone(mail, "a reading", () -> mail.read(0));
+        undone(mail, "a forgetting", () -> mail.forget(0));
+        mail.read(0);
+        mail.publish(0, 18);
+        undone(mail, "a forgotten oldest key", () -> mail.advance(2));
+        Mails.run(mail, "forget 0;send 0 18");
+        undone(mail, "other keys", () -> mail.advance(3));
+        mail.undo();
+        mail.advance(2);
+        CHECK.no("55: the oldest key is the same as before", mail.remembers(0, 10));
+        CHECK.yes("55: and the second oldest too", mail.remembers(0, 11));
+        for (int id = 1; id <= 8; id++) {
+            CHECK.same("55: the inbox has its order", mail.read(0), id);
+        }
+    }
+
+    private static void droppedAndFailed() {
+        CrowMail mail = Mails.with(1, 1, 0);
+        Mails.publish(mail, 0, 0, 1, 2, 3, 4, 5, 6, 7, 7, 8);
+        mail.advance(9);
+        undone(mail, "a duplicate", () -> mail.advance(1));
+        mail.advance(20);
+        CHECK.same("39: one duplicate", mail.duplicateTotal(), 1);
+        undone(mail, "a failure", () -> mail.advance(100));
+        mail.save();
+        mail.advance(100);
+        CHECK.same("40: one failed", mail.failedTotal(), 1);
+        mail.restore();
+        CHECK.same("57: none failed", mail.failedTotal(), 0);
+        CHECK.yes("47: consistent", mail.isConsistent());
+    }
+
+    private static void undone(CrowMail mail, String what, Runnable change) {
+        String before = Picture.of(mail);
+        change.run();
+        CHECK.no("55: " + what + " is seen", Picture.of(mail).equals(before));
+        mail.undo();
+        CHECK.same("55: " + what, Picture.of(mail), before);
+        CHECK.yes("47: after " + what, mail.isConsistent());
     }
 
     private static void eightChanges() {
@@ -168,5 +228,17 @@ public final class UndoTest {
         CHECK.same("57: the newer one", mail.time(), 3);
         CrowMail other = new CrowMail();
         CHECK.refused("57: another object has none", other, STATE, () -> other.restore());
+    }
+
+    /** The nest that the snapshot knows has given its place to another one since. */
+    private static void snapshotOfOtherNests() {
+        CrowMail mail = new CrowMail();
+        mail.addNest(2, 1);
+        mail.save();
+        String before = Picture.of(mail);
+        mail.undo();
+        mail.addNest(7, 3);
+        mail.restore();
+        CHECK.same("57: the nest of the snapshot", Picture.of(mail), before);
     }
 }
