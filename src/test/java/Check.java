@@ -5,19 +5,52 @@ final class Check {
     }
 
     private final String test;
+    private String sentence = "";
     private int made = 0;
+    private int madeBeforeSentence = 0;
     private int failed = 0;
 
     Check(String test) {
         this.test = test;
     }
 
+    /** The checks that follow are for this sentence of the document, told by its promise or term and its words. */
+    void sentence(String words) {
+        endSentence();
+        sentence = words;
+        madeBeforeSentence = made;
+    }
+
+    /** A sentence without a check would look as if it had been tested. */
+    private void endSentence() {
+        if (!sentence.isEmpty() && made == madeBeforeSentence) {
+            failed++;
+            System.out.println(test + ": \"" + sentence + "\" has no check");
+        }
+    }
+
     void same(String what, Object got, Object due) {
         made++;
         if (!due.equals(got)) {
             failed++;
-            System.out.println(test + ": " + what + ": got " + got + ", due is " + due);
+            String where = sentence.isEmpty() ? test : test + ": \"" + sentence + "\"";
+            String[] told = told(String.valueOf(got), due.toString());
+            System.out.println(where + ": " + what + ": got " + told[0] + ", due is " + told[1]);
         }
+    }
+
+    /** Two texts, or what comes where they begin to differ if they are long. */
+    private static String[] told(String got, String due) {
+        if (got.length() + due.length() < 400) {
+            return new String[] {got, due};
+        }
+        int same = 0;
+        while (same < got.length() && same < due.length() && got.charAt(same) == due.charAt(same)) {
+            same++;
+        }
+        int from = Math.max(0, same - 40);
+        return new String[] {"..." + got.substring(from, Math.min(got.length(), same + 40)) + "...",
+            "..." + due.substring(from, Math.min(due.length(), same + 40)) + "..."};
     }
 
     void yes(String what, boolean got) {
@@ -51,6 +84,7 @@ final class Check {
     }
 
     void finish() {
+        endSentence();
         System.out.println(test + ": " + (made - failed) + " checks held, " + failed + " did not");
         if (failed > 0 || made == 0) {
             System.exit(1);
