@@ -10,19 +10,10 @@ public final class ChangeTest {
     private static final Check CHECK = new Check("ChangeTest");
 
     public static void main(String[] args) {
-        publishing();
-        refusedPublishing();
-        reading();
-        cancelling();
-        refusedCancelling();
-        windForces();
-        advancing();
-        arrivals();
-        duplicates();
-        fullInbox();
-        naps();
-        napLengths();
-        waitingOrder();
+        CHECK.each(ChangeTest::publishing, ChangeTest::refusedPublishing, ChangeTest::reading, ChangeTest::cancelling,
+            ChangeTest::refusedCancelling, ChangeTest::windForces, ChangeTest::advancing, ChangeTest::arrivals,
+            ChangeTest::duplicates, ChangeTest::fullInbox, ChangeTest::naps, ChangeTest::napLengths,
+            ChangeTest::waitingOrder);
         CHECK.finish();
     }
 

@@ -14,6 +14,18 @@ final class Check {
         this.test = test;
     }
 
+    /** Runs each test by itself, so that one that breaks off does not keep the others from telling what they find. */
+    void each(Runnable... tests) {
+        for (Runnable test : tests) {
+            try {
+                test.run();
+            } catch (RuntimeException e) {
+                same("the test goes to its end", "broken off by " + nameOf(e), "to its end");
+            }
+            endSentence();
+        }
+    }
+
     /** The checks that follow are for this sentence of the document, told by its promise or term and its words. */
     void sentence(String words) {
         endSentence();
@@ -27,6 +39,7 @@ final class Check {
             failed++;
             System.out.println(test + ": \"" + sentence + "\" has no check");
         }
+        sentence = "";
     }
 
     void same(String what, Object got, Object due) {
@@ -84,7 +97,6 @@ final class Check {
     }
 
     void finish() {
-        endSentence();
         System.out.println(test + ": " + (made - failed) + " checks held, " + failed + " did not");
         if (failed > 0 || made == 0) {
             System.exit(1);

@@ -7,21 +7,12 @@ public final class CrowBoundsTest {
     private static final Check CHECK = new Check("CrowBoundsTest");
 
     public static void main(String[] args) {
-        fourCrows();
-        indices();
-        freeOrFlying();
-        fifthCrow();
-        crowCount();
-        missingCrows();
-        freeCrowCarriesNothing();
-        minutesOfFreeCrow();
-        minutesOfFlight();
-        forces();
-        wrongForces();
-        previousForce();
-        flightAsLongAsDistance();
-        windGreaterThanFive();
-        windWhenTaken();
+        CHECK.each(CrowBoundsTest::fourCrows, CrowBoundsTest::indices, CrowBoundsTest::freeOrFlying,
+            CrowBoundsTest::fifthCrow, CrowBoundsTest::crowCount, CrowBoundsTest::missingCrows,
+            CrowBoundsTest::freeCrowCarriesNothing, CrowBoundsTest::minutesOfFreeCrow,
+            CrowBoundsTest::minutesOfFlight, CrowBoundsTest::forces, CrowBoundsTest::wrongForces,
+            CrowBoundsTest::previousForce, CrowBoundsTest::flightAsLongAsDistance,
+            CrowBoundsTest::windGreaterThanFive, CrowBoundsTest::windWhenTaken);
         CHECK.finish();
     }
 

@@ -7,11 +7,8 @@ public final class CrowTest {
     private static final Check CHECK = new Check("CrowTest");
 
     public static void main(String[] args) {
-        addedCrows();
-        missingCrows();
-        flights();
-        windyFlights();
-        lateCrow();
+        CHECK.each(CrowTest::addedCrows, CrowTest::missingCrows, CrowTest::flights, CrowTest::windyFlights,
+            CrowTest::lateCrow);
         CHECK.finish();
     }
 

@@ -9,35 +9,19 @@ public final class MessageBoundsTest {
     private static final Check CHECK = new Check("MessageBoundsTest");
 
     public static void main(String[] args) {
-        keys();
-        attemptsAtFirst();
-        ids();
-        newMessageWaits();
-        sixteenMessages();
-        roomAfterReading();
-        roomAfterDuplicate();
-        roomAfterFailure();
-        roomAfterCancelling();
-        missingNestOfPublishing();
-        wrongKeys();
-        seventeenthMessage();
-        firstInInbox();
-        missingNestOfReading();
-        emptyInbox();
-        countAfterCancelling();
-        missingMessages();
-        messageThatCeased();
-        refusedCancelling();
-        messageCount();
-        positions();
-        missingPositions();
-        statuses();
-        napMinutesLeft();
-        notNapping();
-        waitingRanks();
-        missingRanks();
-        lostIfItArrivedNow();
-        lostWhenDelivered();
+        CHECK.each(MessageBoundsTest::keys, MessageBoundsTest::attemptsAtFirst, MessageBoundsTest::ids,
+            MessageBoundsTest::newMessageWaits, MessageBoundsTest::sixteenMessages,
+            MessageBoundsTest::roomAfterReading, MessageBoundsTest::roomAfterDuplicate,
+            MessageBoundsTest::roomAfterFailure, MessageBoundsTest::roomAfterCancelling,
+            MessageBoundsTest::missingNestOfPublishing, MessageBoundsTest::wrongKeys,
+            MessageBoundsTest::seventeenthMessage, MessageBoundsTest::firstInInbox,
+            MessageBoundsTest::missingNestOfReading, MessageBoundsTest::emptyInbox,
+            MessageBoundsTest::countAfterCancelling, MessageBoundsTest::missingMessages,
+            MessageBoundsTest::messageThatCeased, MessageBoundsTest::refusedCancelling,
+            MessageBoundsTest::messageCount, MessageBoundsTest::positions, MessageBoundsTest::missingPositions,
+            MessageBoundsTest::statuses, MessageBoundsTest::napMinutesLeft, MessageBoundsTest::notNapping,
+            MessageBoundsTest::waitingRanks, MessageBoundsTest::missingRanks, MessageBoundsTest::lostIfItArrivedNow,
+            MessageBoundsTest::lostWhenDelivered);
         CHECK.finish();
     }
 

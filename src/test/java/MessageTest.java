@@ -8,15 +8,9 @@ public final class MessageTest {
     private static final Check CHECK = new Check("MessageTest");
 
     public static void main(String[] args) {
-        positions();
-        facts();
-        missingMessages();
-        wouldBeLost();
-        napLengths();
-        predictions();
-        predictionsOfLosses();
-        lastMinuteOfPrediction();
-        predictedEnds();
+        CHECK.each(MessageTest::positions, MessageTest::facts, MessageTest::missingMessages, MessageTest::wouldBeLost,
+            MessageTest::napLengths, MessageTest::predictions, MessageTest::predictionsOfLosses,
+            MessageTest::lastMinuteOfPrediction, MessageTest::predictedEnds);
         CHECK.finish();
     }
 

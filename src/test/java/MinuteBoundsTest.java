@@ -6,39 +6,22 @@ public final class MinuteBoundsTest {
     private static final Check CHECK = new Check("MinuteBoundsTest");
 
     public static void main(String[] args) {
-        timeFromZero();
-        wrongMinutes();
-        deliveredInTheseMinutes();
-        manyMinutesAreSingleOnes();
-        lastMinuteOfFlight();
-        crowFreeInSameMinute();
-        landingInOrderOfCrows();
-        napBegunInThisMinute();
-        lastMinuteOfNap();
-        nothingToTake();
-        takingInOrderOfCrows();
-        fliesFromNextMinute();
-        fewerAttemptsFirst();
-        sameAttemptsByIds();
-        attemptsIncrease();
-        lessThanLoss();
-        moduloFive();
-        lostBeforeDuplicate();
-        duplicateAtFullInbox();
-        duplicateAtFifthAttempt();
-        eighthAndNinth();
-        fullInboxRemembersNothing();
-        endOfInbox();
-        napOrFailure();
-        fifthAttemptDelivers();
-        fifthAttemptLost();
-        napLengths();
-        wrongNapLengths();
-        predictionOfNextMinute();
-        predictionOfHundredMinutes();
-        predictionOfDelivered();
-        predictionOfOtherEnds();
-        predictionChangesNothing();
+        CHECK.each(MinuteBoundsTest::timeFromZero, MinuteBoundsTest::wrongMinutes,
+            MinuteBoundsTest::deliveredInTheseMinutes, MinuteBoundsTest::manyMinutesAreSingleOnes,
+            MinuteBoundsTest::lastMinuteOfFlight, MinuteBoundsTest::crowFreeInSameMinute,
+            MinuteBoundsTest::landingInOrderOfCrows, MinuteBoundsTest::napBegunInThisMinute,
+            MinuteBoundsTest::lastMinuteOfNap, MinuteBoundsTest::nothingToTake,
+            MinuteBoundsTest::takingInOrderOfCrows, MinuteBoundsTest::fliesFromNextMinute,
+            MinuteBoundsTest::fewerAttemptsFirst, MinuteBoundsTest::sameAttemptsByIds,
+            MinuteBoundsTest::attemptsIncrease, MinuteBoundsTest::lessThanLoss, MinuteBoundsTest::moduloFive,
+            MinuteBoundsTest::lostBeforeDuplicate, MinuteBoundsTest::duplicateAtFullInbox,
+            MinuteBoundsTest::duplicateAtFifthAttempt, MinuteBoundsTest::eighthAndNinth,
+            MinuteBoundsTest::fullInboxRemembersNothing, MinuteBoundsTest::endOfInbox, MinuteBoundsTest::napOrFailure,
+            MinuteBoundsTest::fifthAttemptDelivers, MinuteBoundsTest::fifthAttemptLost, MinuteBoundsTest::napLengths,
+            MinuteBoundsTest::napLengthsByDoubling, MinuteBoundsTest::wrongNapLengths,
+            MinuteBoundsTest::predictionOfNextMinute, MinuteBoundsTest::predictionOfHundredMinutes,
+            MinuteBoundsTest::predictionOfDelivered, MinuteBoundsTest::predictionOfOtherEnds,
+            MinuteBoundsTest::predictionChangesNothing);
         CHECK.finish();
     }
 
@@ -425,16 +408,22 @@ public final class MinuteBoundsTest {
     }
 
     private static void napLengths() {
+        CHECK.sentence("31: the length of the nap after a number of attempts");
         CrowMail mail = new CrowMail();
-        for (int attempts : new int[] {0, 1, 30, 31, 32, 33, 39, 40}) {
-            long due = 1;
-            for (int i = 0; i < attempts; i++) {
-                due *= 2;
-            }
-            CHECK.sentence("31: the length of the nap after a number of attempts");
-            CHECK.same(attempts + " attempts", mail.napLength(attempts), due);
-            CHECK.sentence("32: Returns the same number as napLength");
-            CHECK.same(attempts + " attempts", mail.napLengthByDoubling(attempts), due);
+        CHECK.same("the least number", mail.napLength(0), 1L);
+        CHECK.same("the greatest number", mail.napLength(40), 1099511627776L);
+        for (int attempts = 1; attempts <= 40; attempts++) {
+            CHECK.same(attempts + " attempts", mail.napLength(attempts), 2 * mail.napLength(attempts - 1));
+        }
+    }
+
+    private static void napLengthsByDoubling() {
+        CHECK.sentence("32: Returns the same number as napLength, found by doubling");
+        CrowMail mail = new CrowMail();
+        CHECK.same("the least number", mail.napLengthByDoubling(0), 1L);
+        CHECK.same("the greatest number", mail.napLengthByDoubling(40), 1099511627776L);
+        for (int attempts = 0; attempts <= 40; attempts++) {
+            CHECK.same(attempts + " attempts", mail.napLengthByDoubling(attempts), mail.napLength(attempts));
         }
     }
 

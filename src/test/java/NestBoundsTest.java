@@ -9,31 +9,15 @@ public final class NestBoundsTest {
     private static final Check CHECK = new Check("NestBoundsTest");
 
     public static void main(String[] args) {
-        newObject();
-        sixNests();
-        indices();
-        distances();
-        losses();
-        wrongNests();
-        seventhNest();
-        fullInbox();
-        eightKeys();
-        ninthKey();
-        keyOfDuplicate();
-        keyThatCameBack();
-        keysAfterForget();
-        forgetting();
-        nestCount();
-        missingNests();
-        inboxSize();
-        inboxPositions();
-        inboxOrderOfExceptions();
-        rememberedKeys();
-        rememberedCount();
-        ranksByDeliveries();
-        ranksByDistance();
-        ranksByIndex();
-        missingRanks();
+        CHECK.each(NestBoundsTest::newObject, NestBoundsTest::sixNests, NestBoundsTest::indices,
+            NestBoundsTest::distances, NestBoundsTest::losses, NestBoundsTest::wrongNests,
+            NestBoundsTest::seventhNest, NestBoundsTest::fullInbox, NestBoundsTest::eightKeys,
+            NestBoundsTest::ninthKey, NestBoundsTest::keyOfDuplicate, NestBoundsTest::keyThatCameBack,
+            NestBoundsTest::keysAfterForget, NestBoundsTest::forgetting, NestBoundsTest::nestCount,
+            NestBoundsTest::missingNests, NestBoundsTest::inboxSize, NestBoundsTest::inboxPositions,
+            NestBoundsTest::inboxOrderOfExceptions, NestBoundsTest::rememberedKeys, NestBoundsTest::rememberedCount,
+            NestBoundsTest::ranksByDeliveries, NestBoundsTest::ranksByDistance, NestBoundsTest::ranksByIndex,
+            NestBoundsTest::missingRanks);
         CHECK.finish();
     }
 

@@ -7,16 +7,9 @@ public final class NestTest {
     private static final Check CHECK = new Check("NestTest");
 
     public static void main(String[] args) {
-        newObject();
-        addedNests();
-        refusedNests();
-        missingNests();
-        inbox();
-        fullInboxInOrder();
-        keys();
-        oldestKey();
-        forgetting();
-        ranks();
+        CHECK.each(NestTest::newObject, NestTest::addedNests, NestTest::refusedNests, NestTest::missingNests,
+            NestTest::inbox, NestTest::fullInboxInOrder, NestTest::keys, NestTest::oldestKey, NestTest::forgetting,
+            NestTest::ranks);
         CHECK.finish();
     }
 

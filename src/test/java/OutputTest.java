@@ -6,9 +6,7 @@ public final class OutputTest {
     private static final Check CHECK = new Check("OutputTest");
 
     public static void main(String[] args) {
-        messages();
-        crows();
-        characters();
+        CHECK.each(OutputTest::messages, OutputTest::crows, OutputTest::characters);
         CHECK.finish();
     }
 

@@ -9,39 +9,19 @@ public final class ScriptBoundsTest {
     private static final Check CHECK = new Check("ScriptBoundsTest");
 
     public static void main(String[] args) {
-        renderedMessages();
-        renderedCrows();
-        noCrows();
-        lastDigit();
-        outputAtFirst();
-        missingCharacters();
-        replacedOutput();
-        wrongCharacters();
-        sixtyCharacters();
-        lengthOfBuffer();
-        emptyScript();
-        semicolons();
-        digits();
-        numbersOfDigits();
-        leadingZeros();
-        optionalNumber();
-        spaces();
-        wrongWords();
-        everyPrefix();
-        endOfFullBuffer();
-        argumentsInOrder();
-        waitingOneMinute();
-        commandsInOrder();
-        allOrNone();
-        numberOfCommands();
-        emptyAfterwards();
-        wrongFormBeforeFailure();
-        failuresOfCommands();
-        limitsOfArguments();
-        noErrorPosition();
-        latestErrorPosition();
-        noFailedCommand();
-        latestFailedCommand();
+        CHECK.each(ScriptBoundsTest::renderedMessages, ScriptBoundsTest::renderedCrows, ScriptBoundsTest::noCrows,
+            ScriptBoundsTest::lastDigit, ScriptBoundsTest::outputAtFirst, ScriptBoundsTest::missingCharacters,
+            ScriptBoundsTest::replacedOutput, ScriptBoundsTest::wrongCharacters, ScriptBoundsTest::sixtyCharacters,
+            ScriptBoundsTest::lengthOfBuffer, ScriptBoundsTest::emptyScript, ScriptBoundsTest::semicolons,
+            ScriptBoundsTest::digits, ScriptBoundsTest::numbersOfDigits, ScriptBoundsTest::leadingZeros,
+            ScriptBoundsTest::optionalNumber, ScriptBoundsTest::spaces, ScriptBoundsTest::wrongWords,
+            ScriptBoundsTest::everyPrefix, ScriptBoundsTest::endOfFullBuffer, ScriptBoundsTest::argumentsInOrder,
+            ScriptBoundsTest::waitingOneMinute, ScriptBoundsTest::commandsInOrder, ScriptBoundsTest::allOrNone,
+            ScriptBoundsTest::numberOfCommands, ScriptBoundsTest::emptyAfterwards,
+            ScriptBoundsTest::wrongFormBeforeFailure, ScriptBoundsTest::failuresOfCommands,
+            ScriptBoundsTest::limitsOfArguments, ScriptBoundsTest::noErrorPosition,
+            ScriptBoundsTest::latestErrorPosition, ScriptBoundsTest::noFailedCommand,
+            ScriptBoundsTest::latestFailedCommand);
         CHECK.finish();
     }
 
@@ -381,6 +361,10 @@ public final class ScriptBoundsTest {
         CHECK.same("still nothing is changed", Picture.of(mail), before);
         CHECK.same("and no id was taken", mail.publish(0, 1), 4);
         mail.undo();
+        mail.setWind(5);
+        CHECK.same("one that fails is no change", scriptFails(mail, "wind 6;read 1"), 1);
+        mail.undo();
+        CHECK.same("undo takes back what was before it", Picture.of(mail), before);
         CHECK.same("all take effect", Mails.run(mail, eight.substring(0, eight.length() - 1)), 8);
         CHECK.no("everything is changed", Picture.of(mail).equals(before));
         mail.undo();

@@ -8,15 +8,9 @@ public final class ScriptTest {
     private static final Check CHECK = new Check("ScriptTest");
 
     public static void main(String[] args) {
-        typing();
-        commands();
-        waits();
-        numbers();
-        longScripts();
-        errorPositions();
-        failures();
-        allOrNone();
-        keptPositions();
+        CHECK.each(ScriptTest::typing, ScriptTest::commands, ScriptTest::waits, ScriptTest::numbers,
+            ScriptTest::longScripts, ScriptTest::errorPositions, ScriptTest::failures, ScriptTest::allOrNone,
+            ScriptTest::keptPositions);
         CHECK.finish();
     }
 

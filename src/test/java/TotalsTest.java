@@ -4,12 +4,8 @@ public final class TotalsTest {
     private static final Check CHECK = new Check("TotalsTest");
 
     public static void main(String[] args) {
-        totals();
-        noMean();
-        noRate();
-        means();
-        rates();
-        fullHouse();
+        CHECK.each(TotalsTest::totals, TotalsTest::noMean, TotalsTest::noRate, TotalsTest::means, TotalsTest::rates,
+            TotalsTest::fullHouse);
         CHECK.finish();
     }
 

@@ -9,33 +9,17 @@ public final class UndoBoundsTest {
     private static final Check CHECK = new Check("UndoBoundsTest");
 
     public static void main(String[] args) {
-        everyCallThatIsAChange();
-        sameStateAfterwards();
-        callsThatAreNoChange();
-        latestEight();
-        latestFirst();
-        changesAfterUndo();
-        manyChanges();
-        nothingToUndo();
-        changesLeft();
-        undoOfWholeState();
-        snapshotOfWholeState();
-        nextId();
-        bufferIsNotCovered();
-        errorPositionIsNotCovered();
-        failedCommandIsNotCovered();
-        outputIsNotCovered();
-        snapshotIsNotCovered();
-        savedMessages();
-        earlierSnapshot();
-        noSnapshot();
-        restoredMessages();
-        snapshotIsKept();
-        nothingToUndoAfterRestore();
-        refusedCallsOfUsualState();
-        refusedCallsOfFullState();
-        firstOfSeveralExceptions();
-        lastOf512Calls();
+        CHECK.each(UndoBoundsTest::everyCallThatIsAChange, UndoBoundsTest::sameStateAfterwards,
+            UndoBoundsTest::callsThatAreNoChange, UndoBoundsTest::latestEight, UndoBoundsTest::latestFirst,
+            UndoBoundsTest::changesAfterUndo, UndoBoundsTest::manyChanges, UndoBoundsTest::nothingToUndo,
+            UndoBoundsTest::changesLeft, UndoBoundsTest::undoOfWholeState, UndoBoundsTest::snapshotOfWholeState,
+            UndoBoundsTest::nextId, UndoBoundsTest::bufferIsNotCovered, UndoBoundsTest::errorPositionIsNotCovered,
+            UndoBoundsTest::failedCommandIsNotCovered, UndoBoundsTest::outputIsNotCovered,
+            UndoBoundsTest::snapshotIsNotCovered, UndoBoundsTest::savedMessages, UndoBoundsTest::earlierSnapshot,
+            UndoBoundsTest::noSnapshot, UndoBoundsTest::restoredMessages, UndoBoundsTest::snapshotIsKept,
+            UndoBoundsTest::nothingToUndoAfterRestore, UndoBoundsTest::refusedCallsOfUsualState,
+            UndoBoundsTest::refusedCallsOfFullState, UndoBoundsTest::firstOfSeveralExceptions,
+            UndoBoundsTest::lastOf512Calls);
         CHECK.finish();
     }
 
@@ -91,8 +75,9 @@ public final class UndoBoundsTest {
         Picture.of(mail);
         mail.minutesUntilDelivered(2);
         mail.isConsistent();
-        mail.restore();
         CHECK.refused("nothing to undo", mail, ELEMENT, () -> mail.undo());
+        mail.restore();
+        CHECK.refused("restore is none", mail, ELEMENT, () -> mail.undo());
         mail.advance(1);
         mail.undo();
         CHECK.refused("undo is none", mail, ELEMENT, () -> mail.undo());

@@ -7,18 +7,9 @@ public final class UndoTest {
     private static final Check CHECK = new Check("UndoTest");
 
     public static void main(String[] args) {
-        everyChange();
-        lateNest();
-        inboxAndKeys();
-        droppedAndFailed();
-        eightChanges();
-        afterUndo();
-        idleChanges();
-        refusedChanges();
-        reusedIds();
-        snapshot();
-        snapshotIsKept();
-        snapshotOfOtherNests();
+        CHECK.each(UndoTest::everyChange, UndoTest::lateNest, UndoTest::inboxAndKeys, UndoTest::droppedAndFailed,
+            UndoTest::eightChanges, UndoTest::afterUndo, UndoTest::idleChanges, UndoTest::refusedChanges,
+            UndoTest::reusedIds, UndoTest::snapshot, UndoTest::snapshotIsKept, UndoTest::snapshotOfOtherNests);
         CHECK.finish();
     }
 
