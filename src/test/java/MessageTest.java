@@ -156,9 +156,10 @@ public final class MessageTest {
                 while ((attempt + force) % 5 < loss) {
                     attempt++;
                 }
-                CHECK.same("33: loss " + loss + ", force " + force, mail.minutesUntilDelivered(0), arrivals[attempt - 1]);
+                int due = arrivals[attempt - 1];
+                CHECK.same("33: loss " + loss + ", force " + force, mail.minutesUntilDelivered(0), due);
                 mail.advance(1);
-                CHECK.same("33: in flight", mail.minutesUntilDelivered(0), arrivals[attempt - 1] - 1);
+                CHECK.same("33: in flight", mail.minutesUntilDelivered(0), due - 1);
             }
         }
     }

@@ -424,7 +424,8 @@ public final class ScriptBoundsTest {
     }
 
     private static void limitsOfArguments() {
-        CHECK.sentence("Scripts: The commands stand for addNest, addCrow, publish, read, cancel, setWind, forget and advance");
+        CHECK.sentence("Scripts: The commands stand for addNest, addCrow, publish, read, cancel, setWind, forget and"
+            + " advance");
         CrowMail mail = new CrowMail();
         CHECK.same("nests", Mails.run(mail, "nest 1 0;nest 9 4;nest 1 0;nest 1 0;nest 1 0;nest 1 0"), 6);
         CHECK.same("crows", Mails.run(mail, "crow;crow;crow;crow"), 4);

@@ -116,7 +116,8 @@ public final class TotalsBoundsTest {
     }
 
     private static void countByTotals() {
-        CHECK.sentence("42: the published messages minus those that were read, dropped as duplicates, failed or cancelled");
+        CHECK.sentence("42: the published messages minus those that were read, dropped as duplicates, failed or"
+            + " cancelled");
         CrowMail mail = Mails.delivered(8);
         mail.publish(0, 0);
         mail.publish(0, 50);
